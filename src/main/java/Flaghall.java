@@ -185,8 +185,8 @@ public final class Flaghall {
     public void discharge(int mortgage, boolean is) throws IndexOutOfBoundsException, IllegalStateException {
         needMortgage(mortgage);
         needRoomInBook();
-        boolean isAlready = book.rankOf(mortgage, minute) == NONE;
-        if (book.isOver(mortgage) || isAlready == is) {
+        boolean isDischarged = book.rankOf(mortgage, minute) == NONE;
+        if (book.isOver(mortgage) || isDischarged == is) {
             throw new IllegalStateException("over by a sale, or so already");
         }
         book.enterDischarge(mortgage, is, minute);
@@ -324,7 +324,7 @@ public final class Flaghall {
     }
 
     private void needRoomInBook() {
-        if (book.paperCount >= PAPERS) {
+        if (book.isFull()) {
             throw new IllegalStateException("there are enough papers");
         }
     }
@@ -551,6 +551,11 @@ public final class Flaghall {
                 papers[i] = new Paper();
                 mortgages[i] = new Mortgage();
             }
+        }
+
+        /** Each mortgage is a paper too, so its rows can't be full before the papers are. */
+        private boolean isFull() {
+            return paperCount >= papers.length || mortgageCount >= mortgages.length;
         }
 
         /** Enters a paper; the face has looked before whether there is room. */
